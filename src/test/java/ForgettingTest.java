@@ -44,6 +44,10 @@ public final class ForgettingTest {
         function(new int[] {5, 5, 5, 5, 5, 5, 5, 5}, 3, "0.875");
         function(new int[] {5, 5, 5, 5, 5, 5, 5, 4}, 3, "0.75");
         function(new int[] {0, 3, 0, 3, 0, 6, 5, 1}, 2, "0.375");
+        Script.run("garbage as images change", "setImage 1 1", "setImage 2 2", "setImage 3 3", "setImage 4 4", "setImage 5 5",
+                "setImage 6 6", "garbage = 1", "garbage = 1", "forgotten = 0.125", "setImage 7 7", "garbage = 0", "forgotten = 0.0",
+                "garbage = 0", "setImage 0 7 = 0", "garbage = 1", "forgotten = 0.125", "setImage 1 7 = 1", "garbage = 2",
+                "forgotten = 0.25", "setImage 0 0 = 7", "forgotten = 0.125", "garbage = 1");
     }
 
     private static void pebbles() {

@@ -156,6 +156,9 @@ public final class TextsTest {
         wayBack("$5", "@5", "@");
         wayBack("a+007", "a-7", "-");
         wayBack("a+000", "a-0", "-");
+        wayBack("a+9-99", "a-9-99", "-");
+        wayBack("a+009*010", "a-9*10", "-");
+        wayBack("[9<a:|:b=100]", "[b=100:|:9<a]", "[|]");
         wayBack("a+010*001", "a-10*1", "-");
         wayBack("a+100&099", "a-100&99", "-");
         wayBack("a+999-b", "a-999-b", "-");

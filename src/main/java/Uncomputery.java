@@ -308,7 +308,13 @@ public final class Uncomputery {
         if (!isVariable(variable)) {
             throw new IllegalArgumentException("no such variable");
         }
-        return fillResults(procedure, variable - 'a');
+        int count = 0;
+        for (int value = 0; value < TABLE_VALUES; value++) {
+            if (tryToEnd(procedure, variable - 'a', value)) {
+                count++;
+            }
+        }
+        return count;
     }
 
     public int alike(int procedure, char variable) throws IndexOutOfBoundsException, IllegalArgumentException {
@@ -318,7 +324,13 @@ public final class Uncomputery {
         if (!isVariable(variable)) {
             throw new IllegalArgumentException("no such variable");
         }
-        int count = fillResults(procedure, variable - 'a');
+        int count = 0;
+        for (int value = 0; value < TABLE_VALUES; value++) {
+            if (tryToEnd(procedure, variable - 'a', value) && count < results.length) {
+                results[count] = trial.value(variable - 'a');
+                count++;
+            }
+        }
         int most = 0;
         for (int i = 0; i < count && i < results.length; i++) {
             most = Math.max(most, countOf(results[i], count));
@@ -556,17 +568,6 @@ public final class Uncomputery {
         whole.begin(procedure, true);
         whole.advance(MOST_STEPS);
         return whole.isEnded();
-    }
-
-    private int fillResults(int procedure, int variable) {
-        int count = 0;
-        for (int value = 0; value < TABLE_VALUES; value++) {
-            if (tryToEnd(procedure, variable, value) && count < results.length) {
-                results[count] = trial.value(variable);
-                count++;
-            }
-        }
-        return count;
     }
 
     private int countOf(int result, int count) {
@@ -926,7 +927,19 @@ public final class Uncomputery {
             if (sign == '~') {
                 return readPartner(change);
             }
-            return readSum(change) && (!isOwnSum(change) || fail('r', begin));
+            if (!readTerm()) {
+                return false;
+            }
+            change.first = term;
+            if (isSumSign(sign())) {
+                change.operator = (char) sign();
+                at++;
+                if (!readTerm()) {
+                    return false;
+                }
+                change.second = term;
+            }
+            return !isOwnSum(change) || fail('r', begin);
         }
 
         private boolean readPartner(Instruction swap) {
@@ -938,23 +951,6 @@ public final class Uncomputery {
                 return fail('r', at);
             }
             at++;
-            return true;
-        }
-
-        private boolean readSum(Instruction update) {
-            if (!readTerm()) {
-                return false;
-            }
-            update.first = term;
-            if (!isSumSign(sign())) {
-                return true;
-            }
-            update.operator = (char) sign();
-            at++;
-            if (!readTerm()) {
-                return false;
-            }
-            update.second = term;
             return true;
         }
 

@@ -9,12 +9,16 @@ import java.util.List;
  *
  * A line is a call with its arguments, then " = " and the answer: a number, a sign, true or false, or the
  * exception's name behind "throws ". The line "text T" empties the text and types all signs of T; "say T" makes
- * a procedure of T. Signs are written as they are, others by their number behind #.
+ * a procedure of T. Signs are written as they are, others by their number behind #. There are calls of the
+ * script's own: "faultOf T" types T as "text T" does, and answers the place and the letter of its fault, or none;
+ * "textOf P" answers the whole text of a procedure, and "signsOf P" all of its instructions.
  *
  * Where an exception is due, the call is made once more on another object, and all that can be seen of that one
  * must be as on a third one on which it was not made: a refused call changes nothing.
  */
 final class Script {
+    private static final int PROMISES = 51;
+    private static final boolean[] PROMISED = new boolean[PROMISES + 1];
     private static int wrong = 0;
     private static int checked = 0;
 
@@ -28,6 +32,19 @@ final class Script {
             if (lines[i].contains(" = throws ")) {
                 checkNothingChanged(name, lines, i);
             }
+        }
+    }
+
+    /** A test of its own for one sentence of the document, under the promise that it is a part of. */
+    static void promise(int number, String sentence, String... lines) {
+        PROMISED[number] = true;
+        run("promise " + number + ": " + sentence, lines);
+    }
+
+    /** Tells each of these promises for which no sentence was tested. */
+    static void allPromised(int from, int to) {
+        for (int i = from; i <= to; i++) {
+            same("sentences tested of promise " + i, PROMISED[i], true);
         }
     }
 
@@ -158,7 +175,18 @@ final class Script {
     }
 
     static String answer(Uncomputery object, String call) {
+        if (call.startsWith("faultOf ")) {
+            object.wipe();
+            type(object, call.substring(8));
+            return faultOf(object);
+        }
         String[] parts = call.split(" ");
+        if (parts[0].equals("textOf")) {
+            return textOf(object, Integer.parseInt(parts[1]));
+        }
+        if (parts[0].equals("signsOf")) {
+            return instructionsOf(object, Integer.parseInt(parts[1]));
+        }
         Method method = methodOf(parts[0]);
         Class<?>[] types = method.getParameterTypes();
         Object[] arguments = new Object[types.length];

@@ -1653,19 +1653,23 @@ public final class Uncomputery {
 
         private void keep(int outputs, int gates) {
             int slot = slotOf(outputs);
-            if (slots[slot] == 0) {
+            if (slot >= 0 && slot < slots.length && slots[slot] == 0) {
                 slots[slot] = outputs | gates << GATES_SHIFT;
             }
         }
 
         private int kept(int outputs) {
-            return slots[slotOf(outputs)];
+            return inSlot(slotOf(outputs));
+        }
+
+        private int inSlot(int slot) {
+            return slot >= 0 && slot < slots.length ? slots[slot] : 0;
         }
 
         /** The slot that has them, or the free one that they belong to: 3520 are kept at most. */
         private int slotOf(int outputs) {
             int slot = outputs * 0x9E3779B1 >>> SLOT_SHIFT;
-            for (int i = 0; i < SLOTS && slots[slot] != 0 && (slots[slot] & OUTPUTS) != outputs; i++) {
+            for (int i = 0; i < SLOTS && inSlot(slot) != 0 && (inSlot(slot) & OUTPUTS) != outputs; i++) {
                 slot = slot + 1 & SLOTS - 1;
             }
             return slot;

@@ -186,6 +186,8 @@ public final class EdgesOfFiguresTest {
         Script.promise(51, "true though the text has zeros ahead, which do not come back", "say a+001;[01=a:|:a=000]", "isSound = true");
         Script.promise(51, "true of a full text", "say " + FULL, "isSound = true");
         Script.promise(51, "true of brackets within one another", "say " + NESTED, "isSound = true");
+        Script.promise(51, "each procedure's own text: a shorter one behind a longer one", "say a+1+b;c-d*9", "say a+1;c-d", "say a+1",
+                "isSound = true", "say [a=b:a+1-c|:b=a]", "define = 4", "isSound = true");
         Script.promise(51, "true of procedures that break", "say ?a;@5", "run 0 true = throws UnsupportedOperationException",
                 "isSound = true");
         Script.promise(51, "true of 6 procedures", join(times(6, "say {a=0:b+09|?c:a>1}"), "isSound = true", "procedures = 6"));

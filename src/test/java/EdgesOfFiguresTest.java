@@ -13,6 +13,7 @@ public final class EdgesOfFiguresTest {
     public static void main(String[] args) {
         newObject();
         newObjectsApart();
+        lastCalls();
         procedures();
         checksumOfVariables();
         checksumOfStack();
@@ -68,6 +69,19 @@ public final class EdgesOfFiguresTest {
                 + fresh.gates() + " " + fresh.through(7) + " " + fresh.forgotten() + " " + fresh.erase('b') + " " + fresh.wipe();
         Script.same("promise 1: what another object did is not there", seen, before);
         Script.same("promise 1: the other object keeps it", used.procedures() + " " + used.stackAt(0) + " " + used.gates(), "1 5 1");
+    }
+
+    private static void lastCalls() {
+        String[] lines = new String[512];
+        for (int i = 0; i < 508; i += 2) {
+            lines[i] = "set a " + (i + 2) + " = " + i;
+            lines[i + 1] = "get a = " + (i + 2);
+        }
+        lines[508] = "erase a = 7";
+        lines[509] = "type a = 1";
+        lines[510] = "gate 2 3 = 1";
+        lines[511] = "checksum = 185077355124704";
+        Script.promise(1, "an object is used for 512 calls, of which the last ones answer as the first ones", lines);
     }
 
     private static void procedures() {

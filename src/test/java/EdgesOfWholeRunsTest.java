@@ -15,6 +15,7 @@ public final class EdgesOfWholeRunsTest {
         begunRunStays();
         stepsOfRuns();
         stepsAside();
+        manySteps();
         Script.allPromised(25, 25);
         Script.allPromised(27, 27);
         Script.end("EdgesOfWholeRunsTest");
@@ -142,5 +143,23 @@ public final class EdgesOfWholeRunsTest {
         Script.promise(27, "those of alike aside", "say a+1", "alike 0 a = 1", "steps = 0");
         Script.promise(27, "start, set and erase are no steps", "say a+1", "start 0 true = 0", "set a 3", "erase a = 2", "start 0 false = 1",
                 "steps = 0");
+    }
+
+    /** Some lines, and behind them these ones in turn until it is so many in all. */
+    private static String[] upTo(int count, String[] lines, String... others) {
+        String[] all = new String[count];
+        for (int i = 0; i < count; i++) {
+            all[i] = i < lines.length ? lines[i] : others[(i - lines.length) % others.length];
+        }
+        return all;
+    }
+
+    private static void manySteps() {
+        String[] goes = upTo(480, new String[] {"say {a=0:a+1|b+1:c=1}", "start 0 true = 0"}, "go 500 false = 500");
+        goes[479] = "steps = 238500";
+        Script.promise(27, "steps that went on are counted as long as the object is used", goes);
+        String[] runs = upTo(482, new String[] {"say b+1;c+1;" + LOOP}, "run 0 true = 500", "run 0 false = 500");
+        runs[481] = "steps = 240000";
+        Script.promise(27, "steps of whole runs are counted as long as the object is used", runs);
     }
 }

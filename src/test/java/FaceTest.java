@@ -8,10 +8,11 @@ import java.nio.file.Files;
 import java.nio.file.Paths;
 import java.util.Arrays;
 import java.util.HashSet;
+import java.util.List;
 import java.util.Set;
 import java.util.TreeSet;
 
-/** The class has the face of the document and no more, and keeps to the rules that can be seen from outside. */
+/** The class has the face of the document and no more, and keeps to the rules of LANGUAGE.md that can be seen from outside. */
 public final class FaceTest {
     private static final String[] FACE = {
         "int type(char) IllegalStateException", "int wipe()", "int fault() NoSuchElementException",
@@ -72,55 +73,56 @@ public final class FaceTest {
         for (Method method : Uncomputery.class.getDeclaredMethods()) {
             if (Modifier.isPrivate(method.getModifiers())) {
                 Script.same(method.getName() + " bears a public name", names.contains(method.getName()), false);
+                Script.same(method + " is a lambda", method.getName().startsWith("lambda$"), false);
             }
         }
         for (Class<?> inside : Uncomputery.class.getDeclaredClasses()) {
             for (Method method : inside.getDeclaredMethods()) {
-                Script.same(inside.getSimpleName() + "." + method.getName() + " bears a public name",
-                        names.contains(method.getName()), false);
+                Script.same(method + " is a lambda", method.getName().startsWith("lambda$"), false);
+                Script.same(inside.getSimpleName() + "." + method.getName() + " is private and bears a public name",
+                        Modifier.isPrivate(method.getModifiers()) && names.contains(method.getName()), false);
             }
         }
     }
 
     private static void insides() {
-        Class<?>[] insides = Uncomputery.class.getDeclaredClasses();
-        Script.same("at most 12 classes", insides.length < 12, true);
         fields(Uncomputery.class);
-        for (Class<?> inside : insides) {
+        for (Class<?> inside : Uncomputery.class.getDeclaredClasses()) {
             int modifiers = inside.getModifiers();
-            Script.same(inside + " is private and static", Modifier.isPrivate(modifiers) && Modifier.isStatic(modifiers), true);
+            Script.same(inside + " is private or package-visible",
+                    Modifier.isPublic(modifiers) || Modifier.isProtected(modifiers), false);
             fields(inside);
         }
     }
 
     private static void fields(Class<?> owner) {
-        int count = 0;
         for (Field field : owner.getDeclaredFields()) {
             int modifiers = field.getModifiers();
-            if (Modifier.isStatic(modifiers)) {
-                Script.same(field + " is final", Modifier.isFinal(modifiers), true);
-                Script.same(field + " is a constant", field.getType().isPrimitive(), true);
-            } else {
-                count++;
-            }
+            Script.same(field + " is no static state", Modifier.isStatic(modifiers) && !Modifier.isFinal(modifiers), false);
             if (owner == Uncomputery.class) {
-                Script.same(field + " is private", Modifier.isPrivate(modifiers), true);
+                Script.same(field + " is private", Modifier.isPrivate(modifiers) || field.isSynthetic(), true);
             }
         }
-        Script.same(owner + " has at most 20 fields", count <= 20, true);
     }
 
+    /** Words that the rules leave no room for, with the number of the rule; a word is looked for in code alone. */
     private static void source() throws IOException {
         String text = new String(Files.readAllBytes(Paths.get("src/main/java/Uncomputery.java")), StandardCharsets.UTF_8);
-        String[] ruledOut = {"catch", "finally", "synchronized", "assert", "->", "::", "Exact", "String ", "Random", "System.currentTime",
-            "nanoTime", "Thread", "enum ", "instanceof", "hashCode", "equals(", "toString"};
+        String code = text.replaceAll("(?s)/[*].*?[*]/", " ").replaceAll("//[^\n]*", " ").replaceAll("\"([^\"\\\\]|\\\\.)*\"", "\"\"");
+        String[] ruledOut = {"1 package ", "2 ::", "3 Math.sqrt", "3 Map<", "4 Exact(", "4 System.out", "4 System.err", "4 String.format",
+            "6 finally", "6 synchronized", "6 assert ", "6 getMessage", "6 Throwable", "6 catch (Exception", "6 catch (RuntimeException", "6 catch (ArrayIndexOutOfBounds",
+            "6 catch (NullPointer", "6 catch (ClassCast", "6 catch (NegativeArraySize", "6 catch (ArrayStore", "6 hashCode(", "13 Random",
+            "13 currentTimeMillis", "13 nanoTime", "13 Thread", "13 java.io", "13 java.nio", "13 java.net", "13 getenv", "13 getProperty"};
         for (String word : ruledOut) {
-            Script.same("the source has " + word, text.contains(word), false);
+            int end = word.indexOf(' ');
+            Script.same("rule " + word.substring(0, end) + ": the class has " + word.substring(end + 1),
+                    code.contains(word.substring(end + 1)), false);
         }
-        Script.same("imports", text.split("import ", -1).length - 1, 2);
-        for (int i = 0; i < text.length(); i++) {
-            if (text.charAt(i) > 126) {
-                Script.same("sign at " + i, text.charAt(i), "an ASCII sign");
+        List<String> known = Arrays.asList("ArrayList", "List", "Arrays", "Iterator", "NoSuchElementException");
+        for (String line : code.split("\n")) {
+            if (line.startsWith("import ")) {
+                String name = line.substring(7, line.indexOf(';'));
+                Script.same("rule 4: " + line, name.startsWith("java.util.") && known.contains(name.substring(10)), true);
             }
         }
     }

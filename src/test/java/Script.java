@@ -63,6 +63,15 @@ final class Script {
         }
     }
 
+    /** A new object on which these lines were run, whatever they answered. */
+    static Uncomputery prepared(String... lines) {
+        Uncomputery object = new Uncomputery();
+        for (String line : lines) {
+            repeat(object, line);
+        }
+        return object;
+    }
+
     /** Types a text on an object that has none. */
     static void type(Uncomputery object, String text) {
         for (int i = 0; i < text.length(); i++) {

@@ -79,12 +79,13 @@ public final class NothingElseTest {
     private static final String[] GOING_ON = {
         "say a+1;!b;c^9", "say d+1;$0;e+1", "say f+1;@1;g-1", "set b 6", "run 0 true", "set b 7", "run 0 true", "set c 5", "erase c",
         "gate 0 6", "gate 1 1", "gate 0 6", "gate 2 1", "gate 2 1", "gate 1 4", "setImage 0 3", "setImage 7 6", "setImage 5 3",
-        "start 2 true", "go 5 false", "text a+7;b"};
+        "start 2 true", "go 5 false", "set a 11", "set b 12", "set c 13", "set d 14", "set e 15", "set f 16", "set g 17", "set h 18",
+        "text a+7;b"};
 
     /** A run that is broken within a call, by a test, going back; a text with a fault. */
     private static final String[] BROKEN = {
         "say !a;[b=1:c+1|d+1:b=1]", "say e+1;$0;e+2", "say ?a;!a", "set a 4", "set b 1", "run 0 true", "set a 3", "erase a", "gate 2 0",
-        "gate 2 0", "gate 2 3", "setImage 7 7", "setImage 1 2", "start 1 true", "go 3 false", "set b 2", "go 500 false", "text a+a;!"};
+        "gate 2 0", "gate 2 3", "setImage 7 7", "setImage 1 2", "start 1 true", "go 3 false", "set b 2", "go 500 false", "set a -1", "set c -3", "set d -4", "set e -5", "set f -6", "set g -7", "set h -8", "text a+a;!"};
 
     /** All that has a limit is at it; the run is at its end, by its way back. */
     private static final String[] FULL = {
@@ -92,7 +93,7 @@ public final class NothingElseTest {
         "set e 5", "run 0 true", "set a 6", "run 0 true", "set b 7", "run 0 true", "set e 8", "run 0 true", "start 1 true", "go 1 false",
         "go 9 true", "gate 0 0", "gate 1 1", "gate 0 0", "gate 2 2", "gate 0 0", "gate 1 5", "gate 0 0", "gate 2 3", "gate 0 0",
         "gate 1 1", "gate 0 0", "gate 2 2", "gate 0 0", "gate 1 5", "gate 0 0", "gate 2 3", "gate 0 0", "gate 1 1", "gate 0 0",
-        "gate 2 2", "gate 0 0", "gate 1 5", "gate 0 0", "gate 2 3", "setImage 0 7", "setImage 1 6", "setImage 2 5", "setImage 3 4",
+        "gate 2 2", "gate 0 0", "gate 1 5", "gate 0 0", "gate 2 3", "setImage 0 7", "setImage 1 6", "setImage 2 5", "setImage 3 4", "set a 1", "set b 2", "set c 3", "set d 4", "set e 5", "set f 6", "set g 7", "set h 8",
         "text !a;!a;!a;!a;!a;!a;!a;!a;!a;!a;!a;!a;!a;!a;!a;!a;!a;!a;a+11+b"};
 
     public static void main(String[] args) {
@@ -113,10 +114,20 @@ public final class NothingElseTest {
     private static void states() {
         Map<String, String> goingOn = parts(Script.prepared(GOING_ON));
         Script.same("a run that can go on", goingOn.get(RUN), "g 2 0 2 false none none none none ");
+        Script.same("variables of it", goingOn.get(VARIABLES), "11 12 13 14 15 16 17 18 ");
+        Script.same("the stack of it", goingOn.get(STACK), "2: 7 6 ");
+        Script.same("procedures of it", goingOn.get(PROCEDURES), "a+1;!b;c^9 3 d+1;$0;e+1 3 f+1;@1;g-1 3 ");
+        Script.same("gates of it", goingOn.get(GATES), "12 17 17 6 9 6 ");
+        Script.same("images of it", goingOn.get(IMAGES), "3 0.625 3 0 0 0 0 3 0 6 ");
         Map<String, String> broken = parts(Script.prepared(BROKEN));
         Script.same("a broken run", broken.get(RUN), "b 2 0 1 false t 1 [ 1 ");
+        Script.same("variables of it", broken.get(VARIABLES), "-1 2 -3 -4 -5 -6 -7 -8 ");
+        Script.same("the text of it", broken.get(TEXT), "0 r 5 ");
         Map<String, String> full = parts(Script.prepared(FULL));
         Script.same("a run at its end", full.get(RUN), "e 0 1 0 false none none none none ");
+        Script.same("variables of a full object", full.get(VARIABLES), "1 2 3 4 5 6 7 8 ");
+        Script.same("a full text", full.get(TEXT), "none none 60 ");
+        Script.same("a full circuit", full.get(GATES).split(" ").length, 24);
         Script.same("a full stack", full.get(STACK), "20: 8 0 0 0 0 0 0 0 7 0 0 0 0 0 6 5 -4 3 -2 1 ");
     }
 
